@@ -48,23 +48,23 @@ public final class FsckDesk {
     private static final int SLASH = 47;
 
     private final Image disk;
-    private final Inodes lyingInodes;
-    private final Directories lyingDirectories;
+    private final Inodes diskInodes;
+    private final Directories diskDirectories;
     private final Repairer repairer;
     private final Writer writer;
     private final Name wanted;
 
     public FsckDesk() {
         Image kept = new Image();
-        Inodes kinds = new Inodes(kept);
+        Inodes keptInodes = new Inodes(kept);
         Image planned = new Image();
-        Inodes inodes = new Inodes(planned);
-        Directories directories = new Directories(planned, inodes);
+        Inodes plannedInodes = new Inodes(planned);
+        Directories plannedDirectories = new Directories(planned, plannedInodes);
         disk = kept;
-        lyingInodes = kinds;
-        lyingDirectories = new Directories(kept, kinds);
-        repairer = new Repairer(kept, planned, inodes, directories);
-        writer = new Writer(planned, inodes, directories);
+        diskInodes = keptInodes;
+        diskDirectories = new Directories(kept, keptInodes);
+        repairer = new Repairer(kept, planned, plannedInodes, plannedDirectories);
+        writer = new Writer(planned, plannedInodes, plannedDirectories);
         wanted = new Name();
     }
 
@@ -98,7 +98,7 @@ public final class FsckDesk {
         } else if (what == 2) {
             Journal.writeSum(disk);
         } else {
-            lyingInodes.writeSum(what - 3);
+            diskInodes.writeSum(what - 3);
         }
         return true;
     }
@@ -128,27 +128,27 @@ public final class FsckDesk {
         }
         switch (what) {
             case 0:
-                return lyingInodes.kind(i);
+                return diskInodes.kind(i);
             case 1:
-                return lyingInodes.links(i);
+                return diskInodes.links(i);
             case 2:
-                return lyingInodes.size(i);
+                return diskInodes.size(i);
             default:
                 return NONE;
         }
     }
 
     public int read(int i, int k) {
-        if (k < 0 || k >= lyingInodes.size(i)) {
+        if (k < 0 || k >= diskInodes.size(i)) {
             return NONE;
         }
-        int place = lyingInodes.contentPlace(i, k);
+        int place = diskInodes.contentPlace(i, k);
         return place == NONE ? NONE : disk.at(place);
     }
 
     public int find(int i, long name) {
         wanted.unpack(name);
-        int place = lyingDirectories.seek(i, wanted);
+        int place = diskDirectories.seek(i, wanted);
         return place == NONE ? NONE : disk.at(place);
     }
 
@@ -517,8 +517,8 @@ public final class FsckDesk {
             return NONE;
         }
 
+        /** A free inode, which is all 0, is in use then. */
         void begin(int i, int kind) {
-            wipe(i);
             image.set(placeOf(i), kind);
         }
 
@@ -606,7 +606,7 @@ public final class FsckDesk {
             add('0' + i % 10);
         }
 
-        /** Whether an entry that isn't one of the fixed ones may have it. */
+        /** Whether an entry that isn't one of the fixed ones may have it; dots alone are none, one or two of them. */
         boolean isAllowed() {
             int dots = 0;
             for (int k = 0; k < length; k++) {
@@ -1090,7 +1090,6 @@ public final class FsckDesk {
 
         private boolean mayEnter(int dir, Name name) {
             return inodes.kind(dir) == DIRECTORY
-                && name.length() > 0
                 && name.isAllowed()
                 && directories.seek(dir, name) == NONE;
         }

@@ -10,6 +10,7 @@ public final class JournalTest {
         commitWritesABlock();
         commitRefuses();
         goodJournalIsReplayed();
+        longJournalIsReplayed();
         badJournalsAreDropped();
         journalMayMendInodes();
         expect.end();
@@ -126,6 +127,24 @@ public final class JournalTest {
         expect.same("repair(1): the journal's block comes first", bench.desk.repair(1), 1);
         expect.yes("it is empty", bench.isBlank(64, 64));
         expect.same("nothing else was written", bench.desk.peek(18 * 64), 0);
+        expect.same("check()", bench.desk.check(), 0);
+    }
+
+    private static void longJournalIsReplayed() {
+        Bench bench = Bench.formatted();
+        for (int k = 0; k < 5; k++) {
+            bench.desk.poke(128 + 64 * k + 5, 101 + k);
+        }
+        expect.yes("commit of 5", bench.desk.commit(0x1213_1415_3e00_0000L, 5));
+        expect.same("repair(-1)", bench.desk.repair(-1), 6);
+        int[] targets = {18, 19, 20, 21, 62};
+        for (int k = 0; k < 5; k++) {
+            expect.same("block " + targets[k], bench.desk.peek(targets[k] * 64 + 5), 101 + k);
+        }
+        // block 7 is made anew by the last pass, block 16 by the second one
+        bench.desk.commit(0x0710_1600_0000_0000L, 3);
+        expect.same("repair(-1) with the maps and the root in the journal", bench.desk.repair(-1), 2);
+        expect.same("the third one shows that it was replayed", bench.desk.peek(22 * 64 + 5), 103);
         expect.same("check()", bench.desk.check(), 0);
     }
 
