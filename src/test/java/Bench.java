@@ -9,6 +9,23 @@ final class Bench {
         return bench;
     }
 
+    /** A disk of bytes 0 but for a good super in block 0. */
+    static Bench withSuper() {
+        Bench bench = new Bench();
+        bench.text(0, "SFSK");
+        bench.desk.seal(0);
+        return bench;
+    }
+
+    /** A consistent disk with a file, inode 3, named big in the full block of the root; so many blocks are free. */
+    static Bench nearlyFull(int free) {
+        Bench bench = formatted();
+        bench.bigNode(3, 1, (44 - free) * 64, 18);
+        bench.entry(16, 3, 3, "big");
+        bench.desk.repair(-1);
+        return bench;
+    }
+
     static long name(String text) {
         long packed = 0;
         for (int k = 0; k < text.length(); k++) {
@@ -33,12 +50,20 @@ final class Bench {
         }
     }
 
+    void fill(int place, int count, int v) {
+        for (int k = 0; k < count; k++) {
+            desk.poke(place + k, v);
+        }
+    }
+
+    void change(int place, int by) {
+        desk.poke(place, desk.peek(place) + by & 255);
+    }
+
     /** A sealed inode with up to five blocks. */
     void node(int i, int kind, int size, int... blocks) {
         int p = inodePlace(i);
-        for (int k = 0; k < 16; k++) {
-            desk.poke(p + k, 0);
-        }
+        fill(p, 16, 0);
         bytes(p, kind, 0, size / 256, size % 256);
         bytes(p + 4, blocks);
         desk.seal(3 + i);
@@ -55,18 +80,22 @@ final class Bench {
         }
         if (count > 5) {
             desk.poke(p + 9, table);
-            for (int k = count - 5; k < 64; k++) {
-                desk.poke(table * 64 + k, 0);
-            }
+            fill(table * 64 + count - 5, 64 - (count - 5), 0);
         }
         desk.seal(3 + i);
     }
 
+    /** A sealed directory without entries of its own. */
+    void directory(int i, int... blocks) {
+        node(i, 2, blocks.length * 64, blocks);
+        for (int block : blocks) {
+            fill(block * 64, 64, 0);
+        }
+    }
+
     void entry(int block, int slot, int inode, String name) {
         int p = block * 64 + slot * 16;
-        for (int k = 0; k < 16; k++) {
-            desk.poke(p + k, 0);
-        }
+        fill(p, 16, 0);
         bytes(p, inode, name.length());
         text(p + 2, name);
     }
@@ -92,6 +121,34 @@ final class Bench {
 
     boolean isFreeEntry(int block, int slot) {
         return isBlank(block * 64 + slot * 16, 16);
+    }
+
+    boolean isFreeInode(int i) {
+        return isBlank(inodePlace(i), 16);
+    }
+
+    int pointer(int i, int k) {
+        return desk.peek(inodePlace(i) + 4 + k);
+    }
+
+    int indirect(int i) {
+        return desk.peek(inodePlace(i) + 9);
+    }
+
+    int pair(int place) {
+        return desk.peek(place) * 256 + desk.peek(place + 1);
+    }
+
+    int freeBlocks() {
+        return pair(4);
+    }
+
+    int freeInodes() {
+        return pair(6);
+    }
+
+    boolean isUsedBlock(int block) {
+        return (desk.peek(448 + block / 8) >> 7 - block % 8 & 1) != 0;
     }
 
     int find(int dir, String name) {

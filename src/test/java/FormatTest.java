@@ -4,7 +4,8 @@ public final class FormatTest {
 
     public static void main(String[] args) {
         wholeDiskIsAsTold();
-        formatAgain();
+        whateverWasThereGoes();
+        formattedDiskIsConsistent();
         expect.end();
     }
 
@@ -33,28 +34,46 @@ public final class FormatTest {
         System.arraycopy(values, 0, w, place, values.length);
     }
 
-    private static void compare(FsckDesk desk) {
+    private static void compare(String what, FsckDesk desk) {
         int[] due = due();
         for (int p = 0; p < 4096; p++) {
-            expect.same("formatted peek(" + p + ")", desk.peek(p), due[p]);
+            expect.same(what + ": peek(" + p + ")", desk.peek(p), due[p]);
         }
     }
 
     private static void wholeDiskIsAsTold() {
+        expect.sentence("then it is repaired: how many blocks were written by that.");
         FsckDesk desk = new FsckDesk();
         expect.same("format()", desk.format(), 6);
-        compare(desk);
-        expect.same("check()", desk.check(), 0);
+        compare("a new disk", desk);
     }
 
-    private static void formatAgain() {
+    private static void whateverWasThereGoes() {
+        expect.sentence("All bytes are 0 but a good super in block 0 (its numbers 0)");
+        Bench bench = new Bench();
+        bench.fill(0, 4096, 255);
+        expect.same("format() of a disk full of bytes", bench.desk.format(), 6);
+        compare("a full disk", bench.desk);
+        expect.same("format() of a formatted disk", bench.desk.format(), 6);
+        compare("a formatted disk", bench.desk);
+        bench.make(1, "a", 2);
+        bench.make(3, "b", 1);
+        bench.desk.append(4, 9);
+        expect.same("format() of a disk in use", bench.desk.format(), 6);
+        compare("a disk in use", bench.desk);
+        bench.fill(128, 64, 8);
+        bench.desk.commit(0x3e00_0000_0000_0000L, 1);
+        expect.same("format() with a good journal", bench.desk.format(), 6);
+        compare("a disk with a journal", bench.desk);
+    }
+
+    private static void formattedDiskIsConsistent() {
+        expect.sentence("THE DISK IS CONSISTENT when it may be repaired and nothing would be written.");
         FsckDesk desk = new FsckDesk();
-        for (int p = 0; p < 4096; p += 3) {
-            desk.poke(p, 1 + p % 255);
-        }
-        expect.same("format() of a disk full of bytes", desk.format(), 6);
-        compare(desk);
-        expect.same("format() of a formatted disk", desk.format(), 6);
-        compare(desk);
+        desk.format();
+        expect.same("check()", desk.check(), 0);
+        expect.same("repair(-1)", desk.repair(-1), 0);
+        compare("a repaired disk", desk);
+        expect.same("make()", desk.make(1, 'a', 1), 3);
     }
 }

@@ -1,108 +1,27 @@
-/** Promises 5 (seal), 6 (commit), and pass 0 of 7 and 8. */
+/** The journal, sums, promises 5 (seal) and 6 (commit), and pass 0. */
 public final class JournalTest {
     private static final Expect expect = new Expect();
 
     public static void main(String[] args) {
+        sumsWrapAround();
         sealSupers();
         sealJournal();
         sealInodes();
-        sealNothing();
+        sealRefuses();
         commitWritesABlock();
         commitRefuses();
+        numbersOfBlocks();
+        targetsOfThisRange();
+        targetsAreDifferent();
+        bytesBehindAreBlank();
+        markMustBeRight();
+        sumMustBeRight();
         goodJournalIsReplayed();
-        longJournalIsReplayed();
-        badJournalsAreDropped();
-        journalMayMendInodes();
+        everyCopyIsReplayed();
+        inodesMayBeReplayed();
+        noJournalIsLeft();
+        emptyJournalIsNone();
         expect.end();
-    }
-
-    private static int pair(FsckDesk desk, int place) {
-        return desk.peek(place) * 256 + desk.peek(place + 1);
-    }
-
-    private static void sealSupers() {
-        FsckDesk desk = new FsckDesk();
-        for (int p = 0; p < 62; p++) {
-            desk.poke(p, 255);
-            desk.poke(4032 + p, 2);
-        }
-        desk.poke(62, 9);
-        desk.poke(63, 9);
-        expect.yes("seal(0)", desk.seal(0));
-        expect.same("sum of 62 bytes 255", pair(desk, 62), 62 * 255);
-        expect.same("the other super's sum", pair(desk, 4094), 0);
-        expect.yes("seal(1)", desk.seal(1));
-        expect.same("sum of 62 bytes 2", pair(desk, 4094), 124);
-    }
-
-    private static void sealJournal() {
-        FsckDesk desk = new FsckDesk();
-        for (int p = 64; p < 126; p++) {
-            desk.poke(p, 255);
-        }
-        for (int p = 128; p < 512; p++) {
-            desk.poke(p, 255);
-        }
-        for (int n : new int[] {0, 1, 2, 5, 6, 255}) {
-            desk.poke(68, n);
-            expect.yes("seal(2)", desk.seal(2));
-            int due = 61 * 255 + n + Math.min(n, 5) * 64 * 255;
-            expect.same("journal's sum for n = " + n, pair(desk, 126), due % 65536);
-        }
-    }
-
-    private static void sealInodes() {
-        FsckDesk desk = new FsckDesk();
-        for (int p = 512; p < 1024; p++) {
-            desk.poke(p, 255);
-        }
-        for (int i : new int[] {0, 1, 31}) {
-            expect.yes("seal(3 + " + i + ")", desk.seal(3 + i));
-            expect.same("sum of inode " + i, pair(desk, 512 + 16 * i + 14), 14 * 255);
-        }
-        expect.same("sum of inode 2", pair(desk, 512 + 32 + 14), 65535);
-        expect.same("behind the inodes", desk.peek(1024), 0);
-    }
-
-    private static void sealNothing() {
-        FsckDesk desk = new FsckDesk();
-        for (int what : new int[] {-1, 35, 36, Integer.MIN_VALUE, Integer.MAX_VALUE}) {
-            expect.no("seal(" + what + ")", desk.seal(what));
-        }
-        expect.same("nothing written", desk.peek(63), 0);
-    }
-
-    private static void commitWritesABlock() {
-        FsckDesk desk = new FsckDesk();
-        for (int p = 64; p < 128; p++) {
-            desk.poke(p, 77);
-        }
-        desk.poke(128, 250);
-        desk.poke(320 + 63, 20);
-        desk.poke(384, 100);
-        expect.yes("commit of 4", desk.commit(0xff10_2000_3e07_0809L, 4));
-        int[] due = {'J', 'R', 'N', 'L', 4, 255, 16, 32, 0, 0, 0};
-        int sum = 250 + 20;
-        for (int k = 0; k < due.length; k++) {
-            expect.same("journal byte " + k, desk.peek(64 + k), due[k]);
-            sum += due[k];
-        }
-        for (int p = 64 + due.length; p < 126; p++) {
-            expect.same("peek(" + p + ")", desk.peek(p), 0);
-        }
-        expect.same("journal's sum", pair(desk, 126), sum);
-        expect.yes("commit of 5", desk.commit(0xff10_2000_3e07_0809L, 5));
-        expect.same("fifth number", desk.peek(73), 62);
-        expect.same("behind the fifth", desk.peek(74), 0);
-        expect.same("journal's sum", pair(desk, 126), sum + 1 + 62 + 100);
-    }
-
-    private static void commitRefuses() {
-        FsckDesk desk = new FsckDesk();
-        for (int n : new int[] {0, -1, 6, 8, Integer.MIN_VALUE, Integer.MAX_VALUE}) {
-            expect.no("commit of " + n, desk.commit(0x1011121314151617L, n));
-        }
-        expect.same("nothing written", desk.peek(64), 0);
     }
 
     /** A formatted disk with a journal of two blocks, bytes 201 and 202, for blocks 62 and 18. */
@@ -114,67 +33,251 @@ public final class JournalTest {
         return bench;
     }
 
+    private static void isReplayed(String what, Bench bench) {
+        expect.same(what + ": repair(-1)", bench.desk.repair(-1), 3);
+        expect.same(what + ": block 18", bench.desk.peek(18 * 64), 202);
+        expect.yes(what + ": no journal is left", bench.isBlank(64, 64));
+    }
+
+    private static void isDropped(String what, Bench bench) {
+        expect.same(what + ": repair(-1)", bench.desk.repair(-1), 1);
+        expect.same(what + ": block 18", bench.desk.peek(18 * 64), 0);
+        expect.yes(what + ": no journal is left", bench.isBlank(64, 64));
+    }
+
+    private static void sumsWrapAround() {
+        expect.sentence("the SUM of bytes is theirs modulo 65536.");
+        // the mark, n = 5 and the numbers 7 and 18 to 21: 310 + 5 + 7 + 78 = 400
+        long targets = 0x1213_1415_0700_0000L;
+        for (int sum : new int[] {65534, 65535, 65536, 65537, 65536 + 255, 65536 + 256, 400 + 320 * 255}) {
+            Bench bench = Bench.formatted();
+            int left = sum - 400;
+            for (int p = 128; p < 448; p++) {
+                bench.desk.poke(p, Math.min(left, 255));
+                left -= Math.min(left, 255);
+            }
+            bench.desk.commit(targets, 5);
+            expect.same("sealed sum of " + sum, bench.pair(126), sum % 65536);
+            expect.same("repair(-1)", bench.desk.repair(-1), 5);
+            expect.same("it was good: block 18", bench.desk.peek(18 * 64), 255);
+        }
+        Bench bench = Bench.formatted();
+        bench.fill(128, 320, 255);
+        bench.desk.commit(targets, 5);
+        bench.change(126, 1);
+        expect.same("a wrong sum: repair(-1)", bench.desk.repair(-1), 1);
+    }
+
+    private static void sealSupers() {
+        expect.sentence("The right sum is written: what = 0 of the super in block 0, 1 of that in block 63");
+        Bench bench = new Bench();
+        bench.fill(0, 64, 255);
+        bench.fill(4032, 64, 2);
+        expect.yes("seal(0)", bench.desk.seal(0));
+        expect.same("sum of 62 bytes 255", bench.pair(62), 62 * 255);
+        expect.same("the other super's sum", bench.pair(4094), 2 * 257);
+        expect.yes("seal(1)", bench.desk.seal(1));
+        expect.same("sum of 62 bytes 2", bench.pair(4094), 124);
+        expect.same("the bytes before stay", bench.desk.peek(61), 255);
+        expect.same("the byte behind stays", bench.desk.peek(64), 0);
+    }
+
+    private static void sealJournal() {
+        expect.sentence("2 of the journal (block numbers beyond five count for five)");
+        Bench bench = new Bench();
+        bench.fill(64, 64, 255);
+        bench.fill(128, 384, 255);
+        for (int n : new int[] {0, 1, 2, 4, 5, 6, 7, 128, 255}) {
+            bench.desk.poke(68, n);
+            expect.yes("seal(2)", bench.desk.seal(2));
+            int due = 61 * 255 + n + Math.min(n, 5) * 64 * 255;
+            expect.same("journal's sum for n = " + n, bench.pair(126), due % 65536);
+        }
+        expect.same("behind it", bench.desk.peek(128), 255);
+    }
+
+    private static void sealInodes() {
+        expect.sentence("3 + i of inode i.");
+        Bench bench = new Bench();
+        bench.fill(512, 512, 255);
+        for (int i : new int[] {0, 1, 31}) {
+            expect.yes("seal(3 + " + i + ")", bench.desk.seal(3 + i));
+            expect.same("sum of inode " + i, bench.pair(Bench.inodePlace(i) + 14), 14 * 255);
+        }
+        expect.same("sum of inode 2", bench.pair(Bench.inodePlace(2) + 14), 65535);
+        expect.same("sum of inode 30", bench.pair(Bench.inodePlace(30) + 14), 65535);
+        expect.same("behind the inodes", bench.desk.peek(1024), 0);
+        expect.same("before them", bench.desk.peek(511), 0);
+    }
+
+    private static void sealRefuses() {
+        expect.sentence("False for others.");
+        Bench bench = new Bench();
+        bench.fill(0, 4096, 3);
+        int[] before = bench.snapshot();
+        for (int what : new int[] {-1, -3, 35, 36, 255, Integer.MIN_VALUE, Integer.MAX_VALUE}) {
+            expect.no("seal(" + what + ")", bench.desk.seal(what));
+        }
+        expect.unchanged("behind refused seals", bench, before);
+        expect.yes("seal(34)", bench.desk.seal(34));
+    }
+
+    private static void commitWritesABlock() {
+        expect.sentence("for the block numbers that are the n highest bytes of targets, the highest one first; sealed.");
+        Bench bench = new Bench();
+        for (int n = 1; n <= 5; n++) {
+            bench.fill(64, 64, 77);
+            bench.fill(128, 384, 4);
+            expect.yes("commit of " + n, bench.desk.commit(0xff10_2000_3e07_0809L, n));
+            int[] due = {'J', 'R', 'N', 'L', n, 255, 16, 32, 0, 62};
+            int sum = n * 64 * 4;
+            for (int k = 0; k < 62; k++) {
+                int want = k < 5 + n ? due[k] : 0;
+                expect.same("commit of " + n + ": byte " + k, bench.desk.peek(64 + k), want);
+                sum += want;
+            }
+            expect.same("commit of " + n + ": sum", bench.pair(126), sum);
+            expect.same("commit of " + n + ": its blocks are as they were", bench.desk.peek(128), 4);
+        }
+    }
+
+    private static void commitRefuses() {
+        expect.sentence("False when n is not 1 .. 5.");
+        Bench bench = Bench.formatted();
+        int[] before = bench.snapshot();
+        for (int n : new int[] {0, -1, -5, 6, 7, 8, Integer.MIN_VALUE, Integer.MAX_VALUE}) {
+            expect.no("commit of " + n, bench.desk.commit(0x1011121314151617L, n));
+        }
+        expect.unchanged("behind refused commits", bench, before);
+        expect.yes("commit of 1", bench.desk.commit(0, 1));
+        expect.yes("commit of 5", bench.desk.commit(0, 5));
+    }
+
+    private static void numbersOfBlocks() {
+        expect.sentence("It is GOOD when (..) n is 1 .. 5");
+        for (int n = 0; n <= 7; n++) {
+            Bench bench = Bench.formatted();
+            bench.desk.poke(128, 202);
+            bench.desk.commit(0x1213_1415_1600_0000L, 5);
+            bench.desk.poke(68, n);
+            bench.fill(69 + n, 57 - n, 0);
+            if (n > 5) {
+                bench.bytes(74, 23, 24);
+            }
+            bench.desk.seal(2);
+            bench.desk.repair(-1);
+            expect.same("n = " + n + ": block 18", bench.desk.peek(18 * 64), n >= 1 && n <= 5 ? 202 : 0);
+            expect.same("n = " + n + ": check()", bench.desk.check(), 0);
+        }
+        Bench bench = journalled();
+        bench.desk.poke(68, 255);
+        bench.desk.seal(2);
+        isDropped("n = 255", bench);
+    }
+
+    private static void targetsOfThisRange() {
+        expect.sentence("the numbers are different ones of 7 .. 62. (of 7 .. 62)");
+        for (int target : new int[] {0, 1, 6, 7, 8, 15, 16, 62, 63, 64, 128, 255}) {
+            for (int at = 0; at < 2; at++) {
+                Bench bench = Bench.formatted();
+                int source = target < 64 ? target : 0;
+                for (int k = 0; k < 64; k++) {
+                    bench.desk.poke(128 + 64 * at + k, bench.desk.peek(source * 64 + k));
+                }
+                bench.desk.poke(128 + 64 * (1 - at), 202);
+                bench.desk.commit((long) target << 56 - 8 * at | 18L << 48 + 8 * at, 2);
+                bench.desk.repair(-1);
+                boolean good = target >= 7 && target <= 62;
+                expect.same("number " + target + " at " + at + ": block 18", bench.desk.peek(18 * 64), good ? 202 : 0);
+                expect.same("check()", bench.desk.check(), 0);
+            }
+        }
+    }
+
+    private static void targetsAreDifferent() {
+        expect.sentence("the numbers are different ones of 7 .. 62. (different)");
+        long[] same = {0x1212_0000_0000_0000L, 0x1213_1415_1200_0000L, 0x1314_1512_1200_0000L, 0x3e13_3e12_1400_0000L};
+        for (long targets : same) {
+            Bench bench = Bench.formatted();
+            bench.fill(128, 320, 202);
+            bench.desk.commit(targets, (targets >> 40 & 255) == 0 ? 2 : 5);
+            isDropped("numbers " + Long.toHexString(targets), bench);
+        }
+    }
+
+    private static void bytesBehindAreBlank() {
+        expect.sentence("bytes 0 up to place 62");
+        for (int place = 71; place < 126; place++) {
+            Bench bench = journalled();
+            bench.desk.poke(place, 1);
+            bench.desk.seal(2);
+            isDropped("a byte at place " + (place - 64), bench);
+        }
+        Bench bench = Bench.formatted();
+        bench.desk.commit(0x1213_1415_1600_0000L, 5);
+        bench.desk.poke(74, 23);
+        bench.desk.seal(2);
+        isDropped("a sixth number", bench);
+    }
+
+    private static void markMustBeRight() {
+        expect.sentence("It is GOOD when JRNL (..) are right");
+        isReplayed("JRNL", journalled());
+        for (int k = 0; k < 4; k++) {
+            for (int by = -1; by <= 1; by += 2) {
+                Bench bench = journalled();
+                bench.change(64 + k, by);
+                bench.desk.seal(2);
+                isDropped("byte " + k + " wrong", bench);
+            }
+        }
+    }
+
+    private static void sumMustBeRight() {
+        expect.sentence("the sum of all 62 before and of all bytes of blocks 2 .. n + 1 (2).");
+        for (int[] wrong : new int[][] {{127, 1}, {127, -1}, {126, 1}, {126, -1}, {128, 1}, {191, 1}, {192, 1}, {255, 1}}) {
+            Bench bench = journalled();
+            bench.change(wrong[0], wrong[1]);
+            isDropped("the byte at " + wrong[0] + " changed behind the seal", bench);
+        }
+        Bench bench = journalled();
+        bench.desk.poke(256, 1);
+        isReplayed("a byte of the block behind", bench);
+    }
+
     private static void goodJournalIsReplayed() {
+        expect.sentence("a good journal is REPLAYED: its blocks 2, 3, .. are copied to the blocks told, in order");
         Bench bench = journalled();
         expect.same("check()", bench.desk.check(), 3);
         expect.same("a check writes nothing", bench.desk.peek(64), 'J');
-        expect.same("repair(-1)", bench.desk.repair(-1), 3);
-        expect.yes("the journal is empty", bench.isBlank(64, 64));
-        expect.same("block 62", bench.desk.peek(62 * 64 + 63), 201);
-        expect.same("block 18", bench.desk.peek(18 * 64), 202);
+        isReplayed("a journal of two", bench);
+        expect.same("the last byte of block 62", bench.desk.peek(62 * 64 + 63), 201);
         expect.same("its copy stays", bench.desk.peek(192), 202);
         bench = journalled();
         expect.same("repair(1): the journal's block comes first", bench.desk.repair(1), 1);
         expect.yes("it is empty", bench.isBlank(64, 64));
         expect.same("nothing else was written", bench.desk.peek(18 * 64), 0);
-        expect.same("check()", bench.desk.check(), 0);
+        expect.same("nor will be", bench.desk.check(), 0);
     }
 
-    private static void longJournalIsReplayed() {
-        Bench bench = Bench.formatted();
-        for (int k = 0; k < 5; k++) {
-            bench.desk.poke(128 + 64 * k + 5, 101 + k);
+    private static void everyCopyIsReplayed() {
+        expect.sentence("its blocks 2, 3, .. are copied to the blocks told (1 to 5 of them)");
+        for (int n = 1; n <= 5; n++) {
+            Bench bench = Bench.formatted();
+            for (int k = 0; k < 5; k++) {
+                bench.desk.poke(128 + 64 * k + 5, 101 + k);
+            }
+            bench.desk.commit(0x1214_1316_3e00_0000L, n);
+            expect.same("repair(-1)", bench.desk.repair(-1), n + 1);
+            int[] targets = {18, 20, 19, 22, 62};
+            for (int k = 0; k < 5; k++) {
+                expect.same("block " + targets[k] + " of " + n, bench.desk.peek(targets[k] * 64 + 5), k < n ? 101 + k : 0);
+            }
         }
-        expect.yes("commit of 5", bench.desk.commit(0x1213_1415_3e00_0000L, 5));
-        expect.same("repair(-1)", bench.desk.repair(-1), 6);
-        int[] targets = {18, 19, 20, 21, 62};
-        for (int k = 0; k < 5; k++) {
-            expect.same("block " + targets[k], bench.desk.peek(targets[k] * 64 + 5), 101 + k);
-        }
-        // block 7 is made anew by the last pass, block 16 by the second one
-        bench.desk.commit(0x0710_1600_0000_0000L, 3);
-        expect.same("repair(-1) with the maps and the root in the journal", bench.desk.repair(-1), 2);
-        expect.same("the third one shows that it was replayed", bench.desk.peek(22 * 64 + 5), 103);
-        expect.same("check()", bench.desk.check(), 0);
     }
 
-    private static void badJournalsAreDropped() {
-        // mark, n of 0, n of 3 with a second block number behind, a byte behind, a block below 7, the last super, twice the same one
-        int[][] spoilt = {{64, 'j'}, {67, 'M'}, {68, 0}, {68, 6}, {68, 1}, {71, 1}, {125, 1}, {69, 6}, {70, 63}, {70, 255}, {70, 62}};
-        for (int[] each : spoilt) {
-            Bench bench = journalled();
-            bench.desk.poke(each[0], each[1]);
-            bench.desk.seal(2);
-            String what = "journal with " + each[1] + " at " + each[0];
-            expect.same(what, bench.desk.repair(-1), 1);
-            expect.yes(what + ": is empty", bench.isBlank(64, 64));
-            expect.same(what + ": block 18", bench.desk.peek(18 * 64), 0);
-        }
-        Bench bench = journalled();
-        bench.desk.poke(127, bench.desk.peek(127) ^ 1);
-        expect.same("a wrong sum", bench.desk.repair(-1), 1);
-        bench = journalled();
-        bench.desk.poke(200, 1);
-        expect.same("a copy changed behind the seal", bench.desk.repair(-1), 1);
-        bench = journalled();
-        bench.desk.poke(256, 1);
-        expect.same("a block that isn't the journal's", bench.desk.repair(-1), 3);
-        bench = Bench.formatted();
-        bench.desk.poke(100, 1);
-        expect.same("no journal at all", bench.desk.repair(-1), 1);
-    }
-
-    private static void journalMayMendInodes() {
+    private static void inodesMayBeReplayed() {
+        expect.sentence("REPAIR (..) goes over the disk in these PASSES (0 before 1)");
         Bench bench = Bench.formatted();
         bench.make(1, "a", 1);
         for (int k = 0; k < 64; k++) {
@@ -184,6 +287,36 @@ public final class JournalTest {
         bench.desk.commit(0x0800_0000_0000_0000L, 1);
         expect.same("repair with the inodes in the journal", bench.desk.repair(-1), 2);
         expect.same("find a", bench.find(1, "a"), 3);
+        // block 7 is made anew by the last pass, block 16 by the second one
+        bench.fill(128, 192, 9);
+        bench.desk.commit(0x0710_1600_0000_0000L, 3);
+        bench.desk.repair(-1);
+        expect.same("the maps", bench.desk.peek(448), 255);
+        expect.same("the root", bench.entryAt(16, 0, "."), 1);
+        expect.same("block 22", bench.desk.peek(22 * 64 + 5), 9);
         expect.same("check()", bench.desk.check(), 0);
+    }
+
+    private static void noJournalIsLeft() {
+        expect.sentence("then block 1 is all 0 (good or not).");
+        for (int place : new int[] {64, 68, 100, 126, 127}) {
+            Bench bench = Bench.formatted();
+            bench.desk.poke(place, 1);
+            expect.same("check() with a byte at " + place, bench.desk.check(), 1);
+            isDropped("a byte at " + place, bench);
+        }
+        Bench bench = Bench.formatted();
+        bench.fill(64, 64, 255);
+        isDropped("a block of 255", bench);
+    }
+
+    private static void emptyJournalIsNone() {
+        expect.sentence("Empty it is all 0.");
+        Bench bench = Bench.formatted();
+        expect.yes("the journal of a formatted disk", bench.isBlank(64, 64));
+        bench.fill(128, 320, 6);
+        expect.same("check(), whatever blocks 2 to 6 hold", bench.desk.check(), 0);
+        expect.same("repair(-1)", bench.desk.repair(-1), 0);
+        expect.same("they stay", bench.desk.peek(128), 6);
     }
 }
