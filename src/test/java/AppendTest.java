@@ -22,13 +22,6 @@ public final class AppendTest {
         expect.unchanged(what, bench, before);
     }
 
-    private static Bench withFile() {
-        Bench bench = Bench.formatted();
-        bench.make(1, "f", 1);
-        bench.make(1, "d", 2);
-        return bench;
-    }
-
     private static void bytesComeAtTheEnd() {
         expect.sentence("One byte more at the end of a file on a consistent disk");
         Bench bench = Bench.formatted();
@@ -87,8 +80,8 @@ public final class AppendTest {
 
     private static void notConsistent() {
         expect.sentence("False, changing nothing, when it is not consistent");
-        Bench bench = withFile();
-        for (int[] wrong : new int[][] {{63, 0}, {64, 1}, {448, 0}, {1023, 1}, {4095, 0}}) {
+        Bench bench = Bench.withFileAndDirectory();
+        for (int[] wrong : Bench.SPOILT) {
             bench.desk.poke(wrong[0], wrong[1]);
             refuses(bench, 3, 1);
             bench.desk.repair(-1);
@@ -101,7 +94,7 @@ public final class AppendTest {
 
     private static void noFileInUse() {
         expect.sentence("or i is no file in use");
-        Bench bench = withFile();
+        Bench bench = Bench.withFileAndDirectory();
         for (int i : new int[] {-1, 0, 1, 2, 4, 5, 31, 32, 35, Integer.MIN_VALUE, Integer.MAX_VALUE, 1 << 28 | 3}) {
             refuses(bench, i, 1);
         }
@@ -115,7 +108,7 @@ public final class AppendTest {
 
     private static void noByte() {
         expect.sentence("or b not 0 .. 255");
-        Bench bench = withFile();
+        Bench bench = Bench.withFileAndDirectory();
         for (int b : new int[] {-1, -256, 256, 257, Integer.MIN_VALUE, Integer.MAX_VALUE}) {
             refuses(bench, 3, b);
         }
@@ -165,7 +158,7 @@ public final class AppendTest {
     }
 
     private static void noIndirectBlockForIt() {
-        expect.sentence("or there is no block for it. (nor an indirect one)");
+        expect.sentence("or there is no block for it. [nor an indirect one]");
         refuses(withFiveBlocks(0), 3, 1);
         refuses(withFiveBlocks(1), 3, 1);
         Bench bench = withFiveBlocks(2);

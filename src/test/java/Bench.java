@@ -1,5 +1,10 @@
 /** A disk to be laid out by hand: nodes and entries are poked where the document has them. */
 final class Bench {
+    /** Places and bytes, each of which makes a consistent disk one that is not: supers, journal, maps, inodes. */
+    static final int[][] SPOILT = {
+        {0, 0}, {63, 0}, {64, 1}, {127, 1}, {448, 0}, {511, 1}, {512, 1}, {1023, 1}, {4032, 0}, {4095, 0}
+    };
+
     final FsckDesk desk = new FsckDesk();
 
     /** A formatted disk: the root has block 16, lost and found block 17. */
@@ -14,6 +19,14 @@ final class Bench {
         Bench bench = new Bench();
         bench.text(0, "SFSK");
         bench.desk.seal(0);
+        return bench;
+    }
+
+    /** A consistent disk with the file 3, named f, and the directory 4, named d, in the root. */
+    static Bench withFileAndDirectory() {
+        Bench bench = formatted();
+        bench.make(1, "f", 1);
+        bench.make(1, "d", 2);
         return bench;
     }
 

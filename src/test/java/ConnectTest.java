@@ -13,6 +13,7 @@ public final class ConnectTest {
         fiveBlocksGetAnIndirectOne();
         moreThanFiveBlocksHaveOne();
         notAsManyBlocks();
+        greatestSize();
         marksBeforeDigits();
         twelveMarksAtMost();
         twoDigits();
@@ -98,7 +99,7 @@ public final class ConnectTest {
     }
 
     private static void nothingIsLost() {
-        expect.sentence("Then the first inode in use, by number, that is not reached is PUT (and none if there is none)");
+        expect.sentence("Then the first inode in use, by number, that is not reached is PUT [and none if there is none]");
         Bench bench = Bench.formatted();
         bench.make(1, "a", 2);
         bench.make(3, "b", 1);
@@ -210,7 +211,7 @@ public final class ConnectTest {
     }
 
     private static void moreThanFiveBlocksHaveOne() {
-        expect.sentence("when it had five, the next such one becomes its indirect block (and not when it had more)");
+        expect.sentence("when it had five, the next such one becomes its indirect block [and not when it had more]");
         for (int count : new int[] {6, 7, 12}) {
             Bench bench = withLost(count, count * 4 - 2, 2);
             bench.desk.repair(-1);
@@ -241,6 +242,26 @@ public final class ConnectTest {
                 }
                 expect.same("check()", bench.desk.check(), 0);
             }
+        }
+    }
+
+    private static void greatestSize() {
+        expect.sentence("or its size would be above 2944, the entry can't be put.");
+        // beside the root's block there are 46: 45 and an indirect one for lost and found, that is a size of 2880
+        for (int count = 44; count <= 45; count++) {
+            Bench bench = Bench.formatted();
+            bench.bigNode(2, 2, count * 64, 17);
+            bench.node(3, 1, 0);
+            bench.node(5, 1, 0);
+            for (int e = 2; e < count * 4; e++) {
+                bench.entry(17 + e / 4, e % 4, 3, "e" + e);
+            }
+            bench.desk.repair(-1);
+            expect.same(count + " full blocks: size", bench.desk.inode(2, 2), 2880);
+            expect.same(count + " full blocks: file 5", bench.desk.inode(5, 0), count == 44 ? 1 : 0);
+            expect.same(count + " full blocks: free ones", bench.freeBlocks(), 0);
+            expect.same(count + " full blocks: its links", bench.desk.inode(3, 1), count * 4 - 2);
+            expect.same("check()", bench.desk.check(), 0);
         }
     }
 

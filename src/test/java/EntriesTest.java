@@ -12,6 +12,7 @@ public final class EntriesTest {
         namesBeforeThatGo();
         namesOfFixedEntries();
         firstPlaces();
+        everyByteOfFixedEntries();
         lostAndFoundsPlace();
         everyPlaceIsLookedAt();
         expect.end();
@@ -142,7 +143,7 @@ public final class EntriesTest {
     }
 
     private static void namesBeforeThatGo() {
-        expect.sentence("no entry at a place before that stays has it. (one that goes does not count)");
+        expect.sentence("no entry at a place before that stays has it. [one that goes does not count]");
         Bench bench = wideRoot();
         bench.entry(16, 3, 7, "twice");
         bench.entry(18, 0, 2, "twice");
@@ -156,7 +157,7 @@ public final class EntriesTest {
     }
 
     private static void namesOfFixedEntries() {
-        expect.sentence("no entry at a place before that stays has it. (lost+found in the root)");
+        expect.sentence("no entry at a place before that stays has it. [lost+found in the root]");
         Bench bench = wideRoot();
         bench.entry(16, 3, 3, "lost+found");
         bench.entry(18, 0, 3, "lost+foun");
@@ -195,6 +196,21 @@ public final class EntriesTest {
         bench.desk.repair(-1);
         expect.same("9 can't be put", bench.desk.inode(9, 0), 0);
         expect.same("its .. was of itself", bench.entryAt(62, 1, ".."), 9);
+    }
+
+    private static void everyByteOfFixedEntries() {
+        expect.sentence("the first entry is . of itself and the second one .. of itself [whatever was there]");
+        for (int k = 0; k < 80; k++) {
+            // three fixed entries of the root in block 16, two of lost and found in block 17
+            int place = k < 48 ? 16 * 64 + k : 17 * 64 + k - 48;
+            for (int by : new int[] {1, 46, 255}) {
+                Bench bench = Bench.formatted();
+                int[] before = bench.snapshot();
+                bench.change(place, by);
+                expect.same("repair(-1) with another byte at " + place, bench.desk.repair(-1), 1);
+                expect.unchanged("behind a repair", bench, before);
+            }
+        }
     }
 
     private static void lostAndFoundsPlace() {

@@ -6,7 +6,10 @@ final class Expect {
     private int askedBefore;
     private int wrong;
 
-    /** Whatever is asked from here on, up to the next sentence, is asked to see that this one holds. */
+    /**
+     * Whatever is asked from here on, up to the next sentence, is asked to see that this one holds. The words are the
+     * document's, but for what stands in [ ]; (..) stands for words left out.
+     */
     void sentence(String words) {
         closeSentence();
         sentence = words;
@@ -26,7 +29,7 @@ final class Expect {
         if (got != want) {
             wrong++;
             if (wrong <= 20) {
-                System.out.println("[" + sentence + "] " + what + " answered " + got + ", due is " + want);
+                System.out.println(sentence + " | " + what + " answered " + got + ", due is " + want);
             }
         }
     }

@@ -3,6 +3,7 @@ public final class JournalTest {
     private static final Expect expect = new Expect();
 
     public static void main(String[] args) {
+        higherByteFirst();
         sumsWrapAround();
         sealSupers();
         sealJournal();
@@ -43,6 +44,23 @@ public final class JournalTest {
         expect.same(what + ": repair(-1)", bench.desk.repair(-1), 1);
         expect.same(what + ": block 18", bench.desk.peek(18 * 64), 0);
         expect.yes(what + ": no journal is left", bench.isBlank(64, 64));
+    }
+
+    private static void higherByteFirst() {
+        expect.sentence("Numbers of two bytes have the higher one first");
+        for (int sum : new int[] {0, 1, 255, 256, 257, 511, 512}) {
+            Bench bench = new Bench();
+            for (int k = 0; k < 3; k++) {
+                bench.desk.poke(k, Math.max(0, Math.min(255, sum - 255 * k)));
+                bench.desk.poke(512 + k, Math.max(0, Math.min(255, sum - 255 * k)));
+            }
+            bench.desk.seal(0);
+            bench.desk.seal(3);
+            expect.same("higher byte of " + sum, bench.desk.peek(62), sum / 256);
+            expect.same("lower byte of " + sum, bench.desk.peek(63), sum % 256);
+            expect.same("higher byte of " + sum + " in an inode", bench.desk.peek(526), sum / 256);
+            expect.same("lower byte of " + sum + " in an inode", bench.desk.peek(527), sum % 256);
+        }
     }
 
     private static void sumsWrapAround() {
@@ -176,7 +194,7 @@ public final class JournalTest {
     }
 
     private static void targetsOfThisRange() {
-        expect.sentence("the numbers are different ones of 7 .. 62. (of 7 .. 62)");
+        expect.sentence("the numbers are different ones of 7 .. 62. [of 7 .. 62]");
         for (int target : new int[] {0, 1, 6, 7, 8, 15, 16, 62, 63, 64, 128, 255}) {
             for (int at = 0; at < 2; at++) {
                 Bench bench = Bench.formatted();
@@ -195,7 +213,7 @@ public final class JournalTest {
     }
 
     private static void targetsAreDifferent() {
-        expect.sentence("the numbers are different ones of 7 .. 62. (different)");
+        expect.sentence("the numbers are different ones of 7 .. 62. [different]");
         long[] same = {0x1212_0000_0000_0000L, 0x1213_1415_1200_0000L, 0x1314_1512_1200_0000L, 0x3e13_3e12_1400_0000L};
         for (long targets : same) {
             Bench bench = Bench.formatted();
@@ -261,7 +279,7 @@ public final class JournalTest {
     }
 
     private static void everyCopyIsReplayed() {
-        expect.sentence("its blocks 2, 3, .. are copied to the blocks told (1 to 5 of them)");
+        expect.sentence("its blocks 2, 3, .. are copied to the blocks told [1 to 5 of them]");
         for (int n = 1; n <= 5; n++) {
             Bench bench = Bench.formatted();
             for (int k = 0; k < 5; k++) {
@@ -277,7 +295,7 @@ public final class JournalTest {
     }
 
     private static void inodesMayBeReplayed() {
-        expect.sentence("REPAIR (..) goes over the disk in these PASSES (0 before 1)");
+        expect.sentence("REPAIR (..) goes over the disk in these PASSES [0 before 1]");
         Bench bench = Bench.formatted();
         bench.make(1, "a", 1);
         for (int k = 0; k < 64; k++) {

@@ -20,14 +20,6 @@ public final class LinkTest {
         expect.end();
     }
 
-    /** The file 3, named f, and the directory 4, named d, are in the root. */
-    private static Bench withBoth() {
-        Bench bench = Bench.formatted();
-        bench.make(1, "f", 1);
-        bench.make(1, "d", 2);
-        return bench;
-    }
-
     private static void refusesLink(Bench bench, int dir, long name, int i) {
         String what = "link(" + dir + ", " + name + ", " + i + ")";
         int[] before = bench.snapshot();
@@ -44,7 +36,7 @@ public final class LinkTest {
 
     private static void oneEntryMore() {
         expect.sentence("One entry more of a file, likewise.");
-        Bench bench = withBoth();
+        Bench bench = Bench.withFileAndDirectory();
         expect.yes("in the same directory", bench.link(1, "g", 3));
         expect.yes("in another one", bench.link(4, "f", 3));
         expect.same("links", bench.desk.inode(3, 1), 3);
@@ -60,7 +52,7 @@ public final class LinkTest {
     }
 
     private static void linkWithoutFreeInodes() {
-        expect.sentence("One entry more of a file (no inode is taken)");
+        expect.sentence("One entry more of a file [no inode is taken]");
         Bench bench = Bench.formatted();
         for (int i = 3; i < 32; i++) {
             bench.desk.make(1, 'A' + i, 1);
@@ -71,12 +63,12 @@ public final class LinkTest {
     }
 
     private static void linkIsRefusedAsMakeIs() {
-        expect.sentence("False, changing nothing, as for make() (the disk, the directory)");
-        Bench bench = withBoth();
+        expect.sentence("False, changing nothing, as for make() [the disk, the directory]");
+        Bench bench = Bench.withFileAndDirectory();
         for (int dir : new int[] {-1, 0, 3, 5, 31, 32, 33, Integer.MIN_VALUE, Integer.MAX_VALUE, 1 << 28 | 1}) {
             refusesLink(bench, dir, 'x', 3);
         }
-        for (int[] wrong : new int[][] {{63, 0}, {64, 1}, {448, 0}, {1023, 1}, {4095, 0}}) {
+        for (int[] wrong : Bench.SPOILT) {
             bench.desk.poke(wrong[0], wrong[1]);
             refusesLink(bench, 1, 'x', 3);
             bench.desk.repair(-1);
@@ -87,8 +79,8 @@ public final class LinkTest {
     }
 
     private static void linkNames() {
-        expect.sentence("False, changing nothing, as for make() (the name)");
-        Bench bench = withBoth();
+        expect.sentence("False, changing nothing, as for make() [the name]");
+        Bench bench = Bench.withFileAndDirectory();
         for (long name : new long[] {0, '.', 0x2e2e, '/', 0x612f, 0x2f61, 0x6100, 0x610062, Long.MIN_VALUE, 'f', 'd'}) {
             refusesLink(bench, 1, name, 3);
         }
@@ -99,7 +91,7 @@ public final class LinkTest {
     }
 
     private static void linkWithoutRoom() {
-        expect.sentence("False, changing nothing, as for make() (the entry can't be put)");
+        expect.sentence("False, changing nothing, as for make() [the entry can't be put]");
         refusesLink(Bench.nearlyFull(0), 1, 'x', 3);
         expect.yes("where there is room", Bench.nearlyFull(0).link(2, "x", 3));
         Bench bench = Bench.nearlyFull(1);
@@ -125,7 +117,7 @@ public final class LinkTest {
 
     private static void linkNoFile() {
         expect.sentence("or when i is no file in use.");
-        Bench bench = withBoth();
+        Bench bench = Bench.withFileAndDirectory();
         for (int i : new int[] {-1, 0, 1, 2, 4, 5, 31, 32, 35, Integer.MIN_VALUE, Integer.MAX_VALUE, 1 << 28 | 3}) {
             refusesLink(bench, 1, 'x', i);
         }
@@ -133,7 +125,7 @@ public final class LinkTest {
 
     private static void entryGoes() {
         expect.sentence("The entry with a name in a directory goes, on a consistent disk");
-        Bench bench = withBoth();
+        Bench bench = Bench.withFileAndDirectory();
         bench.link(1, "g", 3);
         bench.link(2, "f", 3);
         expect.yes("unlink", bench.unlink(1, "f"));
@@ -149,7 +141,7 @@ public final class LinkTest {
 
     private static void fileWithoutEntriesGoes() {
         expect.sentence("a file without entries (..) is all 0 then");
-        Bench bench = withBoth();
+        Bench bench = Bench.withFileAndDirectory();
         bench.link(4, "f", 3);
         bench.desk.append(3, 66);
         expect.yes("one of two", bench.unlink(1, "f"));
@@ -163,7 +155,7 @@ public final class LinkTest {
 
     private static void directoryThatIsEmptyGoes() {
         expect.sentence("or a directory that has none from the third place on, is all 0 then");
-        Bench bench = withBoth();
+        Bench bench = Bench.withFileAndDirectory();
         expect.yes("unlink", bench.unlink(1, "d"));
         expect.yes("all 0", bench.isFreeInode(4));
         expect.same("links of the root", bench.desk.inode(1, 1), 3);
@@ -205,8 +197,8 @@ public final class LinkTest {
 
     private static void unlinkOnADiskNotConsistent() {
         expect.sentence("False, changing nothing, when it is not consistent");
-        Bench bench = withBoth();
-        for (int[] wrong : new int[][] {{63, 0}, {64, 1}, {448, 0}, {1023, 1}, {4095, 0}}) {
+        Bench bench = Bench.withFileAndDirectory();
+        for (int[] wrong : Bench.SPOILT) {
             bench.desk.poke(wrong[0], wrong[1]);
             refusesUnlink(bench, 1, 'f');
             bench.desk.repair(-1);
@@ -218,7 +210,7 @@ public final class LinkTest {
 
     private static void unlinkInNoDirectory() {
         expect.sentence("or dir is no directory in use");
-        Bench bench = withBoth();
+        Bench bench = Bench.withFileAndDirectory();
         // the file's bytes look like a directory's
         for (int k = 0; k < 64; k++) {
             bench.desk.append(3, k == 32 || k == 33 ? 3 : k == 34 ? 'f' : 0);
@@ -233,7 +225,7 @@ public final class LinkTest {
 
     private static void unlinkNoEntry() {
         expect.sentence("or there is no such entry");
-        Bench bench = withBoth();
+        Bench bench = Bench.withFileAndDirectory();
         for (int dir : new int[] {1, 2, 4}) {
             for (long name : new long[] {0, '.', 0x2e2e, 'x', 0x6600, 0x6666, 0x6c6f73742b666f75L, -1}) {
                 refusesUnlink(bench, dir, name);

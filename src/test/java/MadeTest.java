@@ -71,7 +71,7 @@ public final class MadeTest {
     }
 
     private static void soundOnesStay() {
-        expect.sentence("The root, then lost and found, if not sound, is MADE (and if it is sound, is not)");
+        expect.sentence("The root, then lost and found, if not sound, is MADE [and if it is sound, is not]");
         Bench bench = Bench.formatted();
         bench.make(1, "a", 1);
         bench.make(2, "b", 1);
@@ -87,7 +87,7 @@ public final class MadeTest {
     }
 
     private static void lastBlockIsTaken() {
-        expect.sentence("the first one of 16 .. 62 that no inode in use has (the last one of these)");
+        expect.sentence("the first one of 16 .. 62 that no inode in use has [the last one of these]");
         Bench bench = Bench.withSuper();
         bench.directory(2, 61);
         bench.bigNode(5, 1, 2816, 16);
@@ -123,7 +123,7 @@ public final class MadeTest {
     }
 
     private static void noMoreThanNeededGo() {
-        expect.sentence("as long as there is no such block (and no longer)");
+        expect.sentence("as long as there is no such block [and no longer]");
         Bench bench = Bench.withSuper();
         bench.bigNode(31, 1, 2944, 16);
         bench.node(30, 1, 0);
@@ -143,7 +143,7 @@ public final class MadeTest {
     }
 
     private static void lostAndFoundMayGo() {
-        expect.sentence("the inode in use with the greatest number, not the root, is all 0 before that (lost and found, too)");
+        expect.sentence("the inode in use with the greatest number, not the root, is all 0 before that [lost and found, too]");
         Bench bench = Bench.withSuper();
         bench.bigNode(2, 2, 2944, 16);
         bench.desk.repair(-1);

@@ -34,14 +34,6 @@ public final class MakeTest {
         refuses(bench, dir, name, 2);
     }
 
-    /** The file 3, named f, and the directory 4, named d, are in the root. */
-    private static Bench withBoth() {
-        Bench bench = Bench.formatted();
-        bench.make(1, "f", 1);
-        bench.make(1, "d", 2);
-        return bench;
-    }
-
     private static void makeAFile() {
         expect.sentence("A new file (kind 1) (..) with a name in a directory");
         Bench bench = Bench.formatted();
@@ -94,7 +86,7 @@ public final class MakeTest {
 
     private static void everyDirectoryTakesEntries() {
         expect.sentence("its entry put into it");
-        Bench bench = withBoth();
+        Bench bench = Bench.withFileAndDirectory();
         expect.same("in lost and found", bench.make(2, "a", 1), 5);
         expect.same("its entry, in the third place", bench.entryAt(17, 2, "a"), 5);
         expect.same("in a directory that was made", bench.make(4, "a", 2), 6);
@@ -122,8 +114,8 @@ public final class MakeTest {
 
     private static void notConsistent() {
         expect.sentence("NONE, changing nothing, when it is not consistent");
-        Bench bench = withBoth();
-        for (int[] wrong : new int[][] {{63, 0}, {0, 0}, {64, 1}, {448, 0}, {511, 1}, {512, 1}, {1023, 1}, {4095, 0}, {4032, 0}}) {
+        Bench bench = Bench.withFileAndDirectory();
+        for (int[] wrong : Bench.SPOILT) {
             bench.desk.poke(wrong[0], wrong[1]);
             refusesBoth(bench, 1, 'x');
             bench.desk.repair(-1);
@@ -132,7 +124,7 @@ public final class MakeTest {
         bench.bytes(4032, 0);
         refusesBoth(bench, 1, 'x');
         refusesBoth(new Bench(), 1, 'x');
-        bench = withBoth();
+        bench = Bench.withFileAndDirectory();
         bench.fill(128, 320, 1);
         bench.desk.poke(30 * 64, 1);
         expect.same("blocks 2 to 6 and free ones may hold anything", bench.make(1, "x", 1), 5);
@@ -140,7 +132,7 @@ public final class MakeTest {
 
     private static void noDirectoryInUse() {
         expect.sentence("or dir is no directory in use");
-        Bench bench = withBoth();
+        Bench bench = Bench.withFileAndDirectory();
         for (int dir : new int[] {-1, 0, 3, 5, 31, 32, 33, 34, 36, 65, Integer.MIN_VALUE, Integer.MAX_VALUE, 1 << 28 | 1}) {
             refusesBoth(bench, dir, 'x');
         }
@@ -149,7 +141,7 @@ public final class MakeTest {
 
     private static void namesThatAreNone() {
         expect.sentence("or the name is 0, . or ..");
-        Bench bench = withBoth();
+        Bench bench = Bench.withFileAndDirectory();
         for (int dir : new int[] {1, 2, 4}) {
             refusesBoth(bench, dir, 0);
             refusesBoth(bench, dir, '.');
@@ -162,7 +154,7 @@ public final class MakeTest {
 
     private static void namesWithBadBytes() {
         expect.sentence("has a byte 0 (behind the first one that is not) or 47");
-        Bench bench = withBoth();
+        Bench bench = Bench.withFileAndDirectory();
         for (int shift = 0; shift < 64; shift += 8) {
             refusesBoth(bench, 1, 0x6162636465666768L & ~(255L << shift) | 47L << shift);
             if (shift < 56) {
@@ -182,7 +174,7 @@ public final class MakeTest {
 
     private static void namesThatAreThere() {
         expect.sentence("or is there already");
-        Bench bench = withBoth();
+        Bench bench = Bench.withFileAndDirectory();
         refusesBoth(bench, 1, 'f');
         refusesBoth(bench, 1, 'd');
         expect.same("in another directory", bench.make(4, "f", 1), 5);
@@ -216,7 +208,7 @@ public final class MakeTest {
     }
 
     private static void noInode() {
-        expect.sentence("or there is no inode (or block)");
+        expect.sentence("or there is no inode or block [no inode]");
         Bench bench = Bench.formatted();
         for (int i = 3; i < 32; i++) {
             bench.desk.make(1, 'A' + i, 1);
@@ -229,7 +221,7 @@ public final class MakeTest {
     }
 
     private static void noBlock() {
-        expect.sentence("or there is no (inode or) block");
+        expect.sentence("or there is no inode or block [no block]");
         Bench bench = Bench.nearlyFull(0);
         refuses(bench, 2, 'x', 2);
         expect.same("a file needs none where there is room for its entry", bench.make(2, "x", 1), 4);

@@ -96,7 +96,9 @@ public final class ReaderTest {
             Bench bench = big();
             bench.bytes(Bench.inodePlace(4) + 2, size / 256, size % 256, 16, 16, 16, 16, 16);
             expect.same("the last byte of " + size, bench.desk.read(4, size - 1) >= 0 ? 1 : 0, size > 0 ? 1 : 0);
-            expect.same("the byte behind " + size, bench.desk.read(4, size), -1);
+            for (int k = size; k < 384; k++) {
+                expect.same("byte " + k + " behind " + size, bench.desk.read(4, k), -1);
+            }
             for (int k : new int[] {-1, -64, Integer.MIN_VALUE, Integer.MAX_VALUE}) {
                 expect.same("read(4, " + k + ") of " + size, bench.desk.read(4, k), -1);
             }
@@ -109,11 +111,15 @@ public final class ReaderTest {
 
     private static void readUpToBlock45() {
         expect.sentence("or k / 64 is above 45");
-        FsckDesk desk = big().desk;
-        expect.same("first byte of block 45", desk.read(4, 2880), 1);
-        expect.same("last byte of block 45", desk.read(4, 2943), 3);
-        expect.same("first byte of block 46, that the indirect one tells, too", desk.read(4, 2944), -1);
-        expect.same("the last byte", desk.read(4, 65534), -1);
+        Bench bench = big();
+        expect.same("first byte of block 45", bench.desk.read(4, 2880), 1);
+        expect.same("last byte of block 45", bench.desk.read(4, 2943), 3);
+        // the rest of the indirect block, and what lies behind it, would tell blocks, too
+        bench.fill(20 * 64 + 41, 2048, 16);
+        for (int k = 2944; k < 65535; k += 64) {
+            expect.same("block " + k / 64, bench.desk.read(4, k), -1);
+        }
+        expect.same("the last byte", bench.desk.read(4, 65534), -1);
     }
 
     private static void readByPointersInRange() {
@@ -241,11 +247,11 @@ public final class ReaderTest {
     }
 
     private static void findUpToBlock45() {
-        expect.sentence("entries that read() would not tell are passed over (k / 64 above 45)");
+        expect.sentence("entries that read() would not tell are passed over [k / 64 above 45]");
         Bench bench = new Bench();
         bench.bytes(Bench.inodePlace(7), 2, 0, 255, 255, 0, 0, 0, 0, 0, 40);
         bench.desk.poke(40 * 64 + 40, 31);
-        bench.desk.poke(40 * 64 + 41, 32);
+        bench.fill(40 * 64 + 41, 1024, 32);
         bench.entry(31, 3, 9, "x");
         bench.entry(32, 0, 13, "w");
         expect.same("in block 45", bench.find(7, "x"), 9);

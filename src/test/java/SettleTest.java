@@ -91,7 +91,7 @@ public final class SettleTest {
     }
 
     private static void mapOfAFullDisk() {
-        expect.sentence("others when an inode in use (of a kind above 0) has them (all of them)");
+        expect.sentence("others when an inode in use (of a kind above 0) has them [all of them]");
         Bench bench = Bench.nearlyFull(0);
         for (int k = 0; k < 8; k++) {
             expect.same("map byte " + k, bench.desk.peek(448 + k), 255);
@@ -105,7 +105,7 @@ public final class SettleTest {
     }
 
     private static void mapOfAllInodes() {
-        expect.sentence("others when (..) they are in use (all inodes)");
+        expect.sentence("others when (..) they are in use [all inodes]");
         Bench bench = Bench.formatted();
         for (int i = 3; i < 32; i++) {
             expect.same("free inodes", bench.freeInodes(), 32 - i);

@@ -1,3 +1,5 @@
+import java.util.Arrays;
+
 /** When an inode is sound: those that are not are all 0 behind pass 1. */
 public final class SoundTest {
     private static final Expect expect = new Expect();
@@ -150,7 +152,7 @@ public final class SoundTest {
         for (int size : new int[] {0, 1, 63, 64, 65, 127, 128, 129, 192, 193, 256, 257, 319, 320}) {
             int due = (size + 63) / 64;
             for (int count = 0; count <= 5; count++) {
-                Bench bench = withFile(size, java.util.Arrays.copyOf(blocks, count));
+                Bench bench = withFile(size, Arrays.copyOf(blocks, count));
                 expect.same(size + " bytes in " + count + " blocks", survives(bench) ? 1 : 0, count == due ? 1 : 0);
                 expect.same("free blocks", bench.freeBlocks(), count == due ? 45 - count : 45);
             }
@@ -176,7 +178,7 @@ public final class SoundTest {
     }
 
     private static void blocksInRange() {
-        expect.sentence("its blocks (..) are different ones of 16 .. 62 (pointers)");
+        expect.sentence("its blocks (..) are different ones of 16 .. 62 [pointers]");
         for (int block : new int[] {0, 1, 7, 15, 16, 17, 62, 63, 64, 80, 255}) {
             Bench bench = withFreeBlock16();
             bench.node(5, 1, 64, block);
@@ -210,7 +212,7 @@ public final class SoundTest {
     }
 
     private static void toldBlocksInRange() {
-        expect.sentence("its blocks (..) are different ones of 16 .. 62 (those told by the indirect block)");
+        expect.sentence("its blocks (..) are different ones of 16 .. 62 [those told by the indirect block]");
         for (int block : new int[] {0, 1, 15, 16, 62, 63, 64, 80, 255}) {
             for (int at = 0; at < 2; at++) {
                 Bench bench = withFreeBlock16();
@@ -233,7 +235,7 @@ public final class SoundTest {
     }
 
     private static void blocksAreDifferent() {
-        expect.sentence("are different ones of 16 .. 62 (different)");
+        expect.sentence("are different ones of 16 .. 62 [different]");
         expect.no("the first and the second pointer", survives(withFile(128, 20, 20)));
         expect.no("the fourth and the fifth one", survives(withFile(320, 20, 21, 22, 23, 23)));
         expect.no("the first and the fifth one", survives(withFile(320, 20, 21, 22, 23, 20)));
@@ -259,9 +261,9 @@ public final class SoundTest {
         int[] blocks = {20, 21, 22, 23, 24};
         for (int count = 0; count < 5; count++) {
             for (int k = count; k < 5; k++) {
-                Bench bench = withFile(count * 64, java.util.Arrays.copyOf(blocks, count));
+                Bench bench = withFile(count * 64, Arrays.copyOf(blocks, count));
                 expect.no(count + " blocks, pointer " + k, survives(bench, 4 + k, 30));
-                bench = withFile(count * 64, java.util.Arrays.copyOf(blocks, count));
+                bench = withFile(count * 64, Arrays.copyOf(blocks, count));
                 expect.no(count + " blocks, pointer " + k + " that is none", survives(bench, 4 + k, 255));
             }
         }
@@ -312,7 +314,7 @@ public final class SoundTest {
     }
 
     private static void freeInodesAreBlank() {
-        expect.sentence("Inode 0, and free ones, are all 0. (free ones)");
+        expect.sentence("Inode 0, and free ones, are all 0. [free ones]");
         for (int at = 1; at < 16; at++) {
             for (int i : new int[] {3, 31}) {
                 Bench bench = Bench.formatted();

@@ -24,7 +24,7 @@ public final class SuperTest {
     }
 
     private static void markMustBeRight() {
-        expect.sentence("It is GOOD when SFSK and its sum are right. (SFSK)");
+        expect.sentence("It is GOOD when SFSK and its sum are right. [SFSK]");
         for (int block = 0; block < 64; block += 63) {
             expect.same("check() with a super in " + block, withOneSuper(block).desk.check(), 6);
             for (int k = 0; k < 4; k++) {
@@ -39,7 +39,7 @@ public final class SuperTest {
     }
 
     private static void sumMustBeRight() {
-        expect.sentence("It is GOOD when SFSK and its sum are right. (its sum)");
+        expect.sentence("It is GOOD when SFSK and its sum are right. [its sum]");
         for (int block = 0; block < 64; block += 63) {
             int place = block * 64;
             for (int[] wrong : new int[][] {{63, 1}, {63, -1}, {62, 1}, {62, -1}, {61, 1}, {4, 1}}) {
