@@ -8,7 +8,7 @@ final class Expect {
 
     /**
      * Whatever is asked from here on, up to the next sentence, is asked to see that this one holds. The words are the
-     * document's, but for what stands in [ ]; (..) stands for words left out.
+     * document's (or those of LANGUAGE.md, if it is named), but for what stands in [ ]; (..) stands for words left out.
      */
     void sentence(String words) {
         closeSentence();
